@@ -76,6 +76,7 @@ public final class RedGlass {
     private int sprayed;
     private int faultPlace;
     private int refusedBy;
+    private boolean isSolved;
 
     public RedGlass() {
         world = new World();
@@ -220,8 +221,8 @@ public final class RedGlass {
         if (!isBoat(from, to, night)) {
             return NONE;
         }
-        boats.learn(world, night, night);
-        return boats.sails(from, night) >> to & 1;
+        boats.learnFrom(world, from, night);
+        return hasBit(boats.sails(from, night), to) ? 1 : 0;
     }
 
     public int of(int rock, int night, int what) {
@@ -231,7 +232,7 @@ public final class RedGlass {
         if (what == 1) {
             return world.isWeddingOn(rock, night) ? 1 : 0;
         }
-        boats.learnDangers(world, night, night);
+        boats.learnDanger(world, rock, night);
         return boats.danger(rock, night);
     }
 
@@ -246,8 +247,8 @@ public final class RedGlass {
         if (world.night >= LAST_NIGHT) {
             return refuse(CANNOT_BE);
         }
-        boats.learn(world, world.night, world.night);
-        if ((boats.steps(world.glassRock(), world.night) >> to & 1) == 0) {
+        boats.learnFrom(world, world.glassRock(), world.night);
+        if (!hasBit(boats.steps(world.glassRock(), world.night), to)) {
             return refuse(CANNOT_BE);
         }
         world.night++;
@@ -339,7 +340,7 @@ public final class RedGlass {
         if (rocks < 0 || rocks >= 1 << world.rocks) {
             return NONE;
         }
-        boats.learn(world, night, LAST_NIGHT);
+        boats.learnAll(world, night, LAST_NIGHT);
         int last = rounds.earliest(boats, rock, night, rocks);
         if (last == NONE || i == NONE) {
             return last;
@@ -354,15 +355,15 @@ public final class RedGlass {
         if (!world.hasRock(from) || !isNight(night) || !world.hasRock(to)) {
             return NONE;
         }
-        boats.learn(world, night, LAST_NIGHT);
+        boats.learnAll(world, night, LAST_NIGHT);
         int rocks = 1 << from;
         for (int now = night; now < LAST_NIGHT; now++) {
-            if ((rocks >> to & 1) == 1) {
+            if (hasBit(rocks, to)) {
                 return now;
             }
             rocks = boats.stepsOfAll(rocks, now);
         }
-        return (rocks >> to & 1) == 1 ? LAST_NIGHT : NONE;
+        return hasBit(rocks, to) ? LAST_NIGHT : NONE;
     }
 
     public int guard(int rock, int a, int b, int i) {
@@ -372,7 +373,7 @@ public final class RedGlass {
         if (i < NONE || i > b - a) {
             return NONE;
         }
-        boats.learn(world, a, b);
+        boats.learnAll(world, a, b);
         boats.learnDangers(world, a, b);
         guards.weigh(world, boats, a, b);
         return i == NONE ? guards.leastUnwarned(world, boats, rock, a, b)
@@ -409,7 +410,6 @@ public final class RedGlass {
         if (!world.hasRock(rock)) {
             return refuse(NO_SUCH);
         }
-        boats.learn(world, 0, LAST_NIGHT);
         latestYear.pass(world, boats, seed, rock);
         return accept(latestYear.rocksHad());
     }
@@ -478,14 +478,19 @@ public final class RedGlass {
         return why;
     }
 
+    /** Nothing changes but by calls that come here, so what was solved stands till then. */
     private int accept(int answer) {
         refusedBy = 0;
+        isSolved = false;
         return answer;
     }
 
     private void solveSightings() {
-        boats.learn(world, 0, LAST_NIGHT);
-        sightings.solve(world, boats);
+        if (!isSolved) {
+            boats.learnAll(world, 0, LAST_NIGHT);
+            sightings.solve(world, boats);
+            isSolved = true;
+        }
     }
 
     private boolean isBoat(int from, int to, int night) {
@@ -513,6 +518,10 @@ public final class RedGlass {
 
     private static boolean isBit(int number) {
         return number == 0 || number == 1;
+    }
+
+    private static boolean hasBit(int bits, int bit) {
+        return (bits >> bit & 1) == 1;
     }
 
     /** Where a ROCK in a NIGHT stands in a row of PLACES. */
@@ -571,7 +580,7 @@ public final class RedGlass {
         }
     }
 
-    /** A TEXT that was read: by CLAUSE its kind, the code of its SUM (starts to tests) and of its TEST (tests to ends). */
+    /** A TEXT that was read: by CLAUSE its kind, code for its SUM from starts on, for its TEST from tests to ends. */
     private static final class Law {
         final int size;
         final int[] kinds;
@@ -665,7 +674,7 @@ public final class RedGlass {
         }
     }
 
-    /** The TAPE, read as a LAW into code for a pile. No method goes past a TOKEN that can't go on: there is the FAULT. */
+    /** The TAPE, read as a LAW into code for a pile. Nothing goes past a TOKEN that can't go on: there is the FAULT. */
     private static final class Reader {
         private static final int BLANK = 32;
         private static final int MOST_CLAUSES = 12;
@@ -1023,7 +1032,7 @@ public final class RedGlass {
             return false;
         }
 
-        /** What a SUM tells, or 1 or 0 for a TEST (without code: 1), or BROKEN: that breaks all around it, so the work ends. */
+        /** What a SUM tells; 1 or 0 for a TEST, 1 without code; BROKEN: that breaks all around it, so the work ends. */
         private long work(int[] code, int from, int till) {
             top = 1;
             pile[0] = 1;
@@ -1078,60 +1087,65 @@ public final class RedGlass {
         }
     }
 
-    /** Which boats GO and what DANGER there is, learned once and known till it is to be forgotten. */
+    /** Which boats GO and what DANGER there is: worked out where it is asked for, known till something changes it. */
     private static final class Boats {
+        private static final int UNKNOWN = -1;
+
         private final Asker asker = new Asker();
         private final int[] sailing = new int[PLACES];
         private final int[] dangers = new int[PLACES];
-        private final boolean[] knowsSailing = new boolean[NIGHTS];
-        private final boolean[] knowsDangers = new boolean[NIGHTS];
+
+        Boats() {
+            Arrays.fill(sailing, UNKNOWN);
+            Arrays.fill(dangers, UNKNOWN);
+        }
 
         void forget(int first, int last) {
             for (int night = Math.max(0, first); night <= last && night < NIGHTS; night++) {
-                knowsSailing[night] = false;
-                knowsDangers[night] = false;
+                for (int rock = 0; rock < MOST_ROCKS; rock++) {
+                    sailing[placeOf(rock, night)] = UNKNOWN;
+                    dangers[placeOf(rock, night)] = UNKNOWN;
+                }
             }
         }
 
-        void learn(World world, int first, int last) {
+        void learnAll(World world, int first, int last) {
             for (int night = Math.max(0, first); night <= last && night < NIGHTS; night++) {
-                if (!knowsSailing[night]) {
-                    learnSailing(world, night);
-                    knowsSailing[night] = true;
+                for (int rock = 0; rock < MOST_ROCKS; rock++) {
+                    learnFrom(world, rock, night);
                 }
             }
+        }
+
+        void learnFrom(World world, int from, int night) {
+            if (sailing[placeOf(from, night)] != UNKNOWN) {
+                return;
+            }
+            Law law = world.ruling();
+            boolean isAshore = !world.hasRock(from) || night >= LAST_NIGHT
+                || world.stormOn(night) == 1 || world.isWeddingOn(from, night);
+            int rocks = 0;
+            for (int to = 0; to < world.rocks && !isAshore; to++) {
+                asker.aboutBoat(world, from, to, night);
+                if (to != from && !asker.isBarred(law)) {
+                    rocks |= 1 << to;
+                }
+            }
+            sailing[placeOf(from, night)] = rocks;
         }
 
         void learnDangers(World world, int first, int last) {
             for (int night = Math.max(0, first); night <= last && night < NIGHTS; night++) {
-                if (!knowsDangers[night]) {
-                    learnDangersOf(world, night);
-                    knowsDangers[night] = true;
+                for (int rock = 0; rock < world.rocks; rock++) {
+                    learnDanger(world, rock, night);
                 }
             }
         }
 
-        private void learnSailing(World world, int night) {
-            Law law = world.ruling();
-            boolean isStill = night >= LAST_NIGHT || world.stormOn(night) == 1;
-            for (int from = 0; from < MOST_ROCKS; from++) {
-                int rocks = 0;
-                boolean isAshore = isStill || from >= world.rocks || world.isWeddingOn(from, night);
-                for (int to = 0; to < world.rocks && !isAshore; to++) {
-                    asker.aboutBoat(world, from, to, night);
-                    if (to != from && !asker.isBarred(law)) {
-                        rocks |= 1 << to;
-                    }
-                }
-                sailing[placeOf(from, night)] = rocks;
-            }
-        }
-
-        private void learnDangersOf(World world, int night) {
-            Law law = world.ruling();
-            for (int rock = 0; rock < MOST_ROCKS; rock++) {
+        void learnDanger(World world, int rock, int night) {
+            if (dangers[placeOf(rock, night)] == UNKNOWN) {
                 asker.aboutRock(world, rock, night);
-                dangers[placeOf(rock, night)] = rock < world.rocks ? asker.told(law, DANGER) : 0;
+                dangers[placeOf(rock, night)] = asker.told(world.ruling(), DANGER);
             }
         }
 
@@ -1148,7 +1162,7 @@ public final class RedGlass {
         int stepsOfAll(int rocks, int night) {
             int next = 0;
             for (int rock = 0; rock < MOST_ROCKS; rock++) {
-                if ((rocks >> rock & 1) == 1) {
+                if (hasBit(rocks, rock)) {
                     next |= steps(rock, night);
                 }
             }
@@ -1219,7 +1233,7 @@ public final class RedGlass {
             long waysBehind = 0;
             for (int to = 0; to < MOST_ROCKS; to++) {
                 int place = placeOf(to, night + 1);
-                if ((steps >> to & 1) == 1 && least[place] <= fewestBehind) {
+                if (hasBit(steps, to) && least[place] <= fewestBehind) {
                     waysBehind = least[place] < fewestBehind ? tally[place] : waysBehind + tally[place];
                     fewestBehind = least[place];
                 }
@@ -1247,7 +1261,7 @@ public final class RedGlass {
             for (int night = 0; night < LAST_NIGHT; night++) {
                 int next = 0;
                 for (int rock = 0; rock < MOST_ROCKS; rock++) {
-                    if ((likelyRocks[night] >> rock & 1) == 1) {
+                    if (hasBit(likelyRocks[night], rock)) {
                         next |= bestSteps(boats, rock, night);
                     }
                 }
@@ -1268,7 +1282,7 @@ public final class RedGlass {
             int behind = least[placeOf(rock, night)] - lying[placeOf(rock, night)];
             int best = 0;
             for (int to = 0; to < MOST_ROCKS; to++) {
-                if ((steps >> to & 1) == 1 && least[placeOf(to, night + 1)] == behind) {
+                if (hasBit(steps, to) && least[placeOf(to, night + 1)] == behind) {
                     best |= 1 << to;
                 }
             }
@@ -1277,7 +1291,7 @@ public final class RedGlass {
 
         private static int lowestOf(int rocks) {
             for (int rock = 0; rock < MOST_ROCKS; rock++) {
-                if ((rocks >> rock & 1) == 1) {
+                if (hasBit(rocks, rock)) {
                     return rock;
                 }
             }
@@ -1299,7 +1313,7 @@ public final class RedGlass {
         }
     }
 
-    /** ROUNDS: sets of those told ROCKS that had the GLASS, a bit for each of the 512 there can be, by ROCK and NIGHT. */
+    /** ROUNDS: by NIGHT and ROCK the sets of told ROCKS that had the GLASS, a bit for each of the 512 there can be. */
     private static final class Rounds {
         private static final int WORDS = 8;
         private static final int WORD_ROCKS = 6;
@@ -1342,7 +1356,7 @@ public final class RedGlass {
             for (int rock = 0; rock < MOST_ROCKS; rock++) {
                 int steps = boats.steps(rock, night);
                 for (int to = 0; to < MOST_ROCKS; to++) {
-                    if ((steps >> to & 1) == 1) {
+                    if (hasBit(steps, to)) {
                         carry(wordOf(rock, night, 0), wordOf(to, night + 1, 0), to);
                     }
                 }
@@ -1351,7 +1365,7 @@ public final class RedGlass {
 
         /** The sets of one row go into another one, with a ROCK in each of them if it is told. */
         private void carry(int from, int into, int rock) {
-            boolean isTold = (told >> rock & 1) == 1;
+            boolean isTold = hasBit(told, rock);
             for (int i = 0; i < WORDS; i++) {
                 long sets = layers[from + i];
                 if (!isTold || sets == 0) {
@@ -1379,7 +1393,7 @@ public final class RedGlass {
 
         private int firstStep(int steps, int night, int had, int stay) {
             for (int to = 0; to < MOST_ROCKS; to++) {
-                if ((steps >> to & 1) == 1 && isIn(to, night + 1, had | told & 1 << to)) {
+                if (hasBit(steps, to) && isIn(to, night + 1, had | told & 1 << to)) {
                     return to;
                 }
             }
@@ -1395,7 +1409,7 @@ public final class RedGlass {
                 for (int rock = 0; rock < MOST_ROCKS; rock++) {
                     int steps = boats.steps(rock, now);
                     for (int to = 0; to < MOST_ROCKS; to++) {
-                        if ((steps >> to & 1) == 1) {
+                        if (hasBit(steps, to)) {
                             fetch(wordOf(to, now + 1, 0), wordOf(rock, now, 0), to);
                         }
                     }
@@ -1405,7 +1419,7 @@ public final class RedGlass {
 
         /** The other way round than carry: from which sets one comes to those of a row with a ROCK more. */
         private void fetch(int from, int into, int rock) {
-            boolean isTold = (told >> rock & 1) == 1;
+            boolean isTold = hasBit(told, rock);
             for (int i = 0; i < WORDS; i++) {
                 long sets = layers[from + i];
                 if (!isTold || sets == 0) {
@@ -1413,7 +1427,7 @@ public final class RedGlass {
                 } else if (rock < WORD_ROCKS) {
                     long with = sets & ~WITHOUT[rock];
                     layers[into + i] |= with | with >>> (1 << rock);
-                } else if ((i >> rock - WORD_ROCKS & 1) == 1) {
+                } else if (hasBit(i, rock - WORD_ROCKS)) {
                     layers[into + i] |= sets;
                     layers[into + (i ^ 1 << rock - WORD_ROCKS)] |= sets;
                 }
@@ -1454,7 +1468,7 @@ public final class RedGlass {
             int steps = boats.steps(rock, night);
             int best = NONE;
             for (int to = 0; to < MOST_ROCKS; to++) {
-                if ((steps >> to & 1) == 1
+                if (hasBit(steps, to)
                     && (best == NONE || warned[placeOf(to, night + 1)] > warned[placeOf(best, night + 1)])) {
                     best = to;
                 }
@@ -1538,10 +1552,11 @@ public final class RedGlass {
         }
 
         private int nextRock(World world, Boats boats, int rock, int night) {
+            boats.learnFrom(world, rock, night);
             int sails = boats.sails(rock, night);
             int whole = STAYING;
             for (int to = 0; to < MOST_ROCKS; to++) {
-                wills[to] = (sails >> to & 1) == 1 ? boats.willFor(world, rock, to, night) : 0;
+                wills[to] = hasBit(sails, to) ? boats.willFor(world, rock, to, night) : 0;
                 whole += wills[to];
             }
             int left = draw(whole);

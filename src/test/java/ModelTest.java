@@ -10,7 +10,7 @@ import java.util.Set;
 
 /** Long random runs of calls, each answer held against a plain model of the document. */
 public final class ModelTest {
-    private static final int RUNS = 400;
+    private static final int RUNS = 150;
     private static final int CALLS = 512;
     private static int wrong = 0;
 
