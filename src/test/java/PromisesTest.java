@@ -227,6 +227,7 @@ public final class PromisesTest {
         x.wed(3, 0, 9);
         due("jilt(3)", x.jilt(3), -2);
         due("jilt(-1)", x.jilt(-1), -2);
+        due("goes(1, 0, 0)", x.goes(1, 0, 0), 0);
         due("jilt(0)", x.jilt(0), 2);
         due("of(1, 0, 1)", x.of(1, 0, 1), 0);
         due("of(2, 0, 1)", x.of(2, 0, 1), 1);
@@ -334,6 +335,11 @@ public final class PromisesTest {
         faulty("    ", 4);
         faulty("x", 0);
         faulty("  Danger 1", 2);
+        faulty("banger 1", 0);
+        faulty("bars if rock = z", 15);
+        faulty("bars if rockz = 1", 8);
+        good("bars if " + "1<2 or ".repeat(20) + "1=1");
+        manyLaws();
         RedGlass x = new RedGlass();
         for (int i = 0; i < 6; i++) {
             write(x, "danger " + i);
@@ -350,7 +356,47 @@ public final class PromisesTest {
         due("of(0, 0, 0)", x.of(0, 0, 0), 5);
     }
 
+    /** Limits are of one TEXT, and each LAW keeps to its own CLAUSES. */
+    private static void manyLaws() {
+        RedGlass x = new RedGlass();
+        String full = "danger 1" + "+0".repeat(38) + ";bars if 1=2".repeat(5) + ";danger 7;bars;bars if 1=2";
+        String last = "will 5 if 1=1;will 6 if 1=2;danger 8";
+        write(x, full);
+        due("law()", x.law(), -6);
+        write(x, last);
+        due("law()", x.law(), 0);
+        write(x, "danger 3" + "+1".repeat(49));
+        due("law()", x.law(), 1);
+        write(x, "danger 2 + 1 if 1=1;bars if 1=2;bars if 1=2;bars if 1=2;bars if 1=2;bars if 1=2;bars if 1=2");
+        due("law()", x.law(), 2);
+        due("force(0)", x.force(0), -1);
+        due("of(0, 0, 0)", x.of(0, 0, 0), 8);
+        due("will(0, 1, 0)", x.will(0, 1, 0), 5);
+        due("goes(0, 1, 0)", x.goes(0, 1, 0), 1);
+        due("force(2)", x.force(2), 0);
+        due("of(0, 0, 0)", x.of(0, 0, 0), 3);
+        due("goes(0, 1, 0)", x.goes(0, 1, 0), 1);
+        due("force(1)", x.force(1), 2);
+        due("of(0, 0, 0)", x.of(0, 0, 0), 52);
+    }
+
+    private static void ownPlaces() {
+        RedGlass x = new RedGlass();
+        write(x, "bars;".repeat(80));
+        due("law() of a full TAPE", x.law(), -6);
+        due("fault()", x.fault(), 60);
+        write(x, "bars" + " ".repeat(396));
+        due("law() of a full TAPE", x.law(), 0);
+        write(x, "+".repeat(400));
+        due("law() of a full TAPE", x.law(), -6);
+        due("fault()", x.fault(), 0);
+        write(x, "will 1" + " ".repeat(393) + "+");
+        due("law() of a full TAPE", x.law(), -6);
+        due("fault()", x.fault(), 400);
+    }
+
     private static void fault() {
+        ownPlaces();
         faulty("danger", 6);
         faulty("danger  ", 8);
         faulty("danger 1 2", 9);
@@ -803,7 +849,30 @@ public final class PromisesTest {
         due("round(0, 0, 64, 4)", x.round(0, 0, 64, 4), 6);
         due("round(0, 0, 448, -1)", x.round(0, 0, 448, -1), 6);
         due("round(0, 0, 448, 6)", x.round(0, 0, 448, 6), 8);
+        bigRounds();
         due("count(8)", x.count(8), 0);
+    }
+
+    private static void bigRounds() {
+        RedGlass x = under("bars if not far = 1");
+        due("round(4, 0, 511, -1)", x.round(4, 0, 511, -1), 8);
+        int[] down = {4, 3, 2, 1, 0, 8, 7, 6, 5};
+        for (int i = 0; i < down.length; i++) {
+            due("round(4, 0, 511, " + i + ")", x.round(4, 0, 511, i), down[i]);
+        }
+        due("round(7, 50, 353, -1)", x.round(7, 50, 353, -1), 56);
+        int[] turned = {7, 6, 5, 6, 7, 8, 0};
+        for (int i = 0; i < turned.length; i++) {
+            due("round(7, 50, 353, " + i + ")", x.round(7, 50, 353, i), turned[i]);
+        }
+        due("round(7, 50, 321, -1)", x.round(7, 50, 321, -1), 54);
+        int[] shorter = {7, 6, 7, 8, 0};
+        for (int i = 0; i < shorter.length; i++) {
+            due("round(7, 50, 321, " + i + ")", x.round(7, 50, 321, i), shorter[i]);
+        }
+        due("round(7, 50, 320, -1)", x.round(7, 50, 320, -1), 53);
+        due("round(7, 50, 352, 1)", x.round(7, 50, 352, 1), 8);
+        due("round(7, 50, 352, -1)", x.round(7, 50, 352, -1), 54);
     }
 
     private static void reach() {
@@ -841,6 +910,7 @@ public final class PromisesTest {
         due("guard(3, 0, 4, -1)", x.guard(3, 0, 4, -1), -1);
         due("guard(-1, 0, 4, -1)", x.guard(-1, 0, 4, -1), -1);
         due("guard(1, 0, 4, -2)", x.guard(1, 0, 4, -2), -1);
+        due("guard(1, 3, 4, 2)", x.guard(1, 3, 4, 2), -1);
         x.storm(0, 1);
         due("guard(0, 0, 2, -1)", x.guard(0, 0, 2, -1), 3 + 2);
         due("guard(0, 0, 2, 1)", x.guard(0, 0, 2, 1), 0);
@@ -1017,6 +1087,7 @@ public final class PromisesTest {
         due("of(0, 0, 0) by the LAW of that IMAGE", x.of(0, 0, 0), 6);
         due("back(1)", x.back(1), 0);
         due("count(2)", x.count(2), 1);
+        due("of(0, 0, 0)", x.of(0, 0, 0), 5);
         due("oar(0)", x.oar(0), -3);
     }
 
@@ -1096,5 +1167,40 @@ public final class PromisesTest {
             x.wed(0, 0, 0);
         }
         due("wed", x.status(), -5);
+        clearedStatus();
+    }
+
+    /** Each call that stands wipes out what an earlier one was REFUSED by. */
+    private static void clearedStatus() {
+        for (int call = 0; call < 15; call++) {
+            RedGlass x = new RedGlass();
+            x.wed(0, 9, 9);
+            x.report(0, 9, 1);
+            x.oar(1);
+            x.image(0);
+            write(x, "bars");
+            x.year(0, 99);
+            due("status()", x.status(), -2);
+            switch (call) {
+                case 0: x.terms(0, 3); break;
+                case 1: x.storm(4, 1); break;
+                case 2: x.wed(0, 9, 9); break;
+                case 3: x.jilt(0); break;
+                case 4: x.row(); break;
+                case 5: x.law(); break;
+                case 6: x.force(-1); break;
+                case 7: x.oar(1); break;
+                case 8: x.unrow(); break;
+                case 9: x.report(0, 9, 1); break;
+                case 10: x.burn(0); break;
+                case 11: x.sea(0, 1); break;
+                case 12: x.year(0, 1); break;
+                case 13: x.image(1); break;
+                default: x.back(0); break;
+            }
+            due("status() behind call " + call, x.status(), 0);
+            due("count(9) behind call " + call, x.count(9), 1);
+            due("count(12) behind call " + call, x.count(12), 0);
+        }
     }
 }
