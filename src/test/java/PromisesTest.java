@@ -545,6 +545,11 @@ public final class PromisesTest {
         danger("danger 5 if not 1 = 1 or 1 = 1", 5);
         danger("danger 5 if not (1 = 1 or 1 = 1)", 1);
         danger("danger 5 if not not 1 = 1", 5);
+        danger("danger 5 if not 1 = 1 and 1 = 1", 1);
+        danger("danger 5 if not 1 = 2 and 1 = 1", 5);
+        danger("danger 5 if not 1 = 2 or 1 = 2", 5);
+        danger("danger 1000 * 1000 * 1000 - 1", 99);
+        lastNight();
         danger("danger 1000 * 1000 * 1000 / 1000 / 1000 / 100", 10);
         danger("danger [1000 * 1000 * 1000 + 1] / 1000 / 1000 / 100", 1);
         danger("danger 1000 * 1000 * 1000 + 1 - 1000 * 1000 * 1000", 1);
@@ -553,6 +558,20 @@ public final class PromisesTest {
         danger("danger 1000*1000*1000*1000*1000*1000*1000*1000*1000*1000*1000*1000*0", 1);
         danger("danger 5 if 1000*1000*1000*2 > 1", 1);
         danger("will 7; bars", 1);
+    }
+
+    private static void lastNight() {
+        RedGlass x = under("danger mood + 10 * storm");
+        due("of(0, 59, 0)", x.of(0, 59, 0), 0);
+        x.image(0);
+        x.terms(1, 6);
+        due("of(0, 59, 0)", x.of(0, 59, 0), 6);
+        x.storm(59, 1);
+        due("of(0, 59, 0)", x.of(0, 59, 0), 16);
+        x.back(0);
+        due("of(0, 59, 0)", x.of(0, 59, 0), 0);
+        x.force(-1);
+        due("of(0, 59, 0)", x.of(0, 59, 0), 1);
     }
 
     private static void will() {
@@ -719,6 +738,10 @@ public final class PromisesTest {
         x.report(0, 0, 0);
         x.report(0, 59, 0);
         due("lies()", x.lies(), 2);
+        for (int i = 3; i <= 16; i++) {
+            x.report(0, i, 0);
+            due("lies()", x.lies(), i);
+        }
     }
 
     private static void ways() {
@@ -1089,6 +1112,17 @@ public final class PromisesTest {
         due("count(2)", x.count(2), 1);
         due("of(0, 0, 0)", x.of(0, 0, 0), 5);
         due("oar(0)", x.oar(0), -3);
+        x = new RedGlass();
+        x.image(0);
+        write(x, "danger 8");
+        x.law();
+        x.image(1);
+        x.back(0);
+        write(x, "danger 9");
+        due("law()", x.law(), 0);
+        x.back(1);
+        x.force(0);
+        due("of(0, 0, 0) by the first LAW", x.of(0, 0, 0), 8);
     }
 
     private static void count() {
