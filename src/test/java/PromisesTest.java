@@ -1,112 +1,44 @@
 /** By promise: ordinary inputs, the edges that the document names, wrong inputs. */
-public final class PromisesTest {
-    private static int wrong = 0;
-    private static int promise = 0;
-
-    private static void due(String call, long got, long want) {
-        if (got != want) {
-            wrong++;
-            System.out.println("promise " + promise + ": " + call + " answered " + got + ", due is " + want);
-        }
-    }
-
+public final class PromisesTest extends Due {
     public static void main(String[] args) {
-        promise = 1; newObject();
-        promise = 2; terms();
-        promise = 3; storm();
-        promise = 4; wed();
-        promise = 5; jilt();
-        promise = 6; feed();
-        promise = 7; end();
-        promise = 8; row();
-        promise = 9; spray();
-        promise = 10; law();
-        promise = 11; fault();
-        promise = 12; force();
-        promise = 13; goes();
-        promise = 14; of();
-        promise = 15; will();
-        promise = 16; oar();
-        promise = 17; unrow();
-        promise = 18; trail();
-        promise = 19; unwarned();
-        promise = 20; report();
-        promise = 21; burn();
-        promise = 22; could();
-        promise = 23; lies();
-        promise = 24; ways();
-        promise = 25; likely();
-        promise = 26; liars();
-        promise = 27; round();
-        promise = 28; reach();
-        promise = 29; guard();
-        promise = 30; sea();
-        promise = 31; search();
-        promise = 32; year();
-        promise = 33; drawn();
-        promise = 34; image();
-        promise = 35; back();
-        promise = 36; count();
-        promise = 37; status();
-        System.out.println(wrong == 0 ? "all answers are as due" : wrong + " answers are not as due");
-        if (wrong != 0) {
-            System.exit(1);
-        }
-    }
-
-    /** Puts a text behind the TAPE. */
-    private static void write(RedGlass x, String text) {
-        int before = x.count(7);
-        for (int i = 0; i < text.length(); i += 20) {
-            int[] five = new int[5];
-            for (int j = 0; j < 20; j++) {
-                int sign = i + j < text.length() ? text.charAt(i + j) : ' ';
-                five[j / 4] = five[j / 4] << 8 | sign;
-            }
-            x.feed(five[0], five[1], five[2], five[3], five[4]);
-        }
-        due("end behind '" + text + "'", x.end(before + text.length()), before + text.length());
-    }
-
-    private static RedGlass under(String law) {
-        RedGlass x = new RedGlass();
-        write(x, law);
-        due("law() of '" + law + "'", x.law(), 0);
-        due("force(0)", x.force(0), -1);
-        return x;
-    }
-
-    private static RedGlass under(String law, int rocks) {
-        RedGlass x = under(law);
-        x.terms(0, rocks);
-        return x;
-    }
-
-    /** STORMS in all NIGHTS but some. */
-    private static void stormAllBut(RedGlass x, int... calm) {
-        for (int night = 0; night < 60; night++) {
-            x.storm(night, 1);
-        }
-        for (int night : calm) {
-            x.storm(night, 0);
-        }
-    }
-
-    private static void good(String text) {
-        RedGlass x = new RedGlass();
-        write(x, text);
-        due("law() of '" + text + "'", x.law(), 0);
-        due("fault() of '" + text + "'", x.fault(), -1);
-        due("count(7)", x.count(7), 0);
-    }
-
-    private static void faulty(String text, int place) {
-        RedGlass x = new RedGlass();
-        write(x, text);
-        due("law() of '" + text + "'", x.law(), -6);
-        due("fault() of '" + text + "'", x.fault(), place);
-        due("count(7)", x.count(7), 0);
-        due("count(2)", x.count(2), 0);
+        promise(1, ""); newObject();
+        promise(2, ""); terms();
+        promise(3, ""); storm();
+        promise(4, ""); wed();
+        promise(5, ""); jilt();
+        promise(6, ""); feed();
+        promise(7, ""); ends();
+        promise(8, ""); row();
+        promise(9, ""); spray();
+        promise(10, ""); law();
+        promise(11, ""); fault();
+        promise(12, ""); force();
+        promise(13, ""); goes();
+        promise(14, ""); of();
+        promise(15, ""); will();
+        promise(16, ""); oar();
+        promise(17, ""); unrow();
+        promise(18, ""); trail();
+        promise(19, ""); unwarned();
+        promise(20, ""); report();
+        promise(21, ""); burn();
+        promise(22, ""); could();
+        promise(23, ""); lies();
+        promise(24, ""); ways();
+        promise(25, ""); likely();
+        promise(26, ""); liars();
+        promise(27, ""); round();
+        promise(28, ""); reach();
+        promise(29, ""); guard();
+        promise(30, ""); sea();
+        promise(31, ""); search();
+        promise(32, ""); year();
+        promise(33, ""); drawn();
+        promise(34, ""); image();
+        promise(35, ""); back();
+        promise(36, ""); count();
+        promise(37, ""); status();
+        end();
     }
 
     /** DANGER of ROCK 2 in NIGHT 7 (STORMY) by a LAW, MOOD 4. */
@@ -264,7 +196,7 @@ public final class PromisesTest {
         due("storm(58, 1)", x.storm(58, 1), 1);
     }
 
-    private static void end() {
+    private static void ends() {
         RedGlass x = new RedGlass();
         due("end(0)", x.end(0), 0);
         due("end(1)", x.end(1), -1);
