@@ -15,6 +15,7 @@ public final class FullTest extends Due {
         counts();
         refusalCounts();
         statuses();
+        askedAgain();
         end();
     }
 
@@ -135,6 +136,9 @@ public final class FullTest extends Due {
         promise(8, "how many NIGHTS became STORMY that were not");
         calls(write(calls("storm(4,1)"), "\u0004\u0005\u0005\u0006"), "row()=2 count(1)=3 spray()=0 count(7)=0 row()=-6");
         calls(write(new RedGlass(), "\u0009".repeat(400)), "row()=1 count(1)=1 spray()=0 count(7)=0");
+        promise(8, "NIGHTS are STORMY then");
+        RedGlass asked = calls(under("danger 5+storm"), "of(0,7,0)=5 goes(0,1,7)=1 goes(0,1,8)=1 reach(0,7,1)=8");
+        calls(write(asked, "\u0007"), "row()=1 of(0,7,0)=6 goes(0,1,7)=0 goes(0,1,8)=1 reach(0,7,1)=9 of(0,8,0)=5");
         promise(9, "How many bytes were SPRAY in the latest row() that was not REFUSED (0 ahead of any)");
         calls("spray()=0 row()=-6 spray()=0");
         RedGlass x = calls(write(new RedGlass(), "z".repeat(400)), "spray()=0 row()=0 spray()=400 row()=-6 spray()=400");
@@ -296,7 +300,37 @@ public final class FullTest extends Due {
                 + "search(9,9)=-1 drawn(0)=-1 round(0,0,0,-1)=0 fault() spray()=0 unwarned()=8 status()=" + why
                 + " storm(0,0)=0 status()=0");
         }
+        promise(37, "0 if it was not");
+        String[] taken = {"terms(0,9)=9", "storm(0,1)=0", "wed(0,0,0)=1", "jilt(0)=0", "row()=1", "law()=-6", "force(-1)=-1",
+            "oar(1)=2", "unrow()=0", "report(0,0,0)=2", "burn(0)=0", "sea(0,0)=0", "year(0,0)", "image(0)=0", "back(1)=0"};
+        for (String call : taken) {
+            calls("wed(1,1,1) report(1,1,1) oar(1) image(1) feed(0,0,0,0,0)=20 sea(12,0)=-1 status()=-1 " + call + " status()="
+                + (call.startsWith("law") ? -6 : 0) + " count(8)=1");
+        }
+        calls(write(calls("unrow()=-3"), "bars"), "status()=-3 law()=0 status()=0");
         promise(37, "0 if the answer was as low, but not REFUSED");
         calls("unrow()=-3 force(-1)=-1 status()=0");
+    }
+
+    /** What was asked once is asked anew when something changed that it hangs on. */
+    private static void askedAgain() {
+        promise(24, "as all stands now");
+        RedGlass x = calls(stormAllBut(calls(under("bars if mood=9"), "terms(0,2)"), 3), "ways()=4 storm(4,0) ways()=8");
+        calls(x, "storm(4,1) ways()=4 wed(0,3,3)=0 ways()=3 wed(1,3,3)=1 ways()=2 jilt(0)=1 ways()=3 jilt(0)=0 ways()=4");
+        calls(x, "terms(1,9) ways()=2 force(-1)=0 ways()=4 force(0)=-1 ways()=2 terms(1,0) ways()=4 report(0,0,1)=1 ways()=2");
+        calls(x, "report(0,0,0)=2 ways()=4 lies()=1 liars(1)=3 burn(1)=1 ways()=2 lies()=0 liars(1)=0 likely(0,0)=1 burn(0)=0");
+        calls(x, "image(0) ways()=4 likely(0,0)=3 storm(5,0) ways()=8 back(0) ways()=4 terms(0,3) ways()=9 terms(0,1) ways()=1");
+        calls(x, "back(0) ways()=4");
+        calls(write(x, "\u0003"), "row()=1 ways()=2 back(0)=0 ways()=4 storm(59,0) ways()=4 oar(0) ways()=4 unrow() ways()=4");
+        promise(14, "as all stands now");
+        x = calls(under("danger 10*rock+mood+20*storm"), "of(1,0,0)=10 terms(1,3) of(1,0,0)=13 storm(0,1) of(1,0,0)=33 image(1)");
+        calls(x, "storm(0,0) of(1,0,0)=13 back(1) of(1,0,0)=33 force(-1) of(1,0,0)=1 force(0) of(1,0,0)=33 terms(0,2) of(1,0,0)=33");
+        calls(x, "storm(59,1) of(1,59,0)=33 terms(1,4) of(1,59,0)=34 force(-1) of(1,59,0)=1 back(1) of(1,59,0)=13");
+        promise(27, "as all stands now");
+        calls("round(0,0,3,-1)=1 wed(0,0,0) round(0,0,3,-1)=2 storm(1,1) round(0,0,3,-1)=3 jilt(0) round(0,0,3,-1)=1");
+        promise(29, "as all stands now");
+        calls(under("danger rock+mood", 2), "guard(0,0,1,-1)=1 storm(0,1) guard(0,0,1,-1)=2 terms(1,1) guard(0,0,1,-1)=4");
+        promise(31, "as all stands now");
+        calls("sea(0,9) search(1,0)=450 terms(2,10) search(1,0)=90 sea(1,10) search(1,0)=100 search(1,2)=1");
     }
 }

@@ -114,16 +114,38 @@ public final class TextsTest extends Due {
         faulty("bars if 1<=1", 10);
         faulty("bars if 1==1", 10);
         for (int sign = 0; sign < 256; sign++) {
+            String text = "bars" + (char) sign;
             if (sign == ' ') {
-                good("bars" + (char) sign);
+                good(text);
             } else if (sign == ';') {
-                faulty("bars;", 5);
-            } else if (sign >= 'a' && sign <= 'z' && sign != 's') {
-                faulty("bar" + (char) sign, 0);
-            } else if (sign != 's') {
-                faulty("bars" + (char) sign, 4);
+                faulty(text, 5);
+            } else {
+                faulty(text, sign >= 'a' && sign <= 'z' ? 0 : 4);
             }
         }
+        for (char digit = '0'; digit <= '9'; digit++) {
+            good("danger 1" + digit);
+            good("danger " + digit + "1");
+        }
+        promise(10, "a word is all of its letters, and no more");
+        String[] before = {"", "", "", "bars ", "bars if 1=1 ", "bars if 1=1 ", "bars if "};
+        String[] words = {"danger", "will", "bars", "if", "or", "and", "not"};
+        for (int i = 0; i < words.length; i++) {
+            misspelled(before[i], words[i]);
+        }
+        for (String part : PART_STARTS.subList(2, PART_STARTS.size())) {
+            misspelled("danger ", part);
+        }
+    }
+
+    private static void misspelled(String before, String word) {
+        for (int i = 0; i < word.length(); i++) {
+            String behind = word.substring(i + 1);
+            faulty(before + word.substring(0, i) + "z" + behind, before.length());
+            faulty(before + word.substring(0, i) + behind + " ~", before.length());
+        }
+        faulty(before + word + "a", before.length());
+        faulty(before + "a" + word, before.length());
     }
 
     private static void numbers() {
@@ -204,7 +226,10 @@ public final class TextsTest extends Due {
         calls(under("danger 9 if " + "not (".repeat(7) + "1=1" + ")".repeat(7)), "of(0,0,0)=1");
         promise(14, "8 brackets, with all that waits in front of them");
         calls(under("danger " + "1+1*[".repeat(8) + "1+1*1" + "]".repeat(8)), "of(0,0,0)=10");
-        calls(under("danger 5 if 10+0*0=" + "1+1*[".repeat(8) + "1+1*1" + "]".repeat(8)), "of(0,0,0)=5");
+        String ten = "1+1*[".repeat(8) + "1+1*1" + "]".repeat(8);
+        calls(under("danger 5 if 10+0*0=" + ten), "of(0,0,0)=5");
+        calls(under("danger 5 if " + "1=2 or ".repeat(14) + "10=" + ten), "of(0,0,0)=5");
+        calls(under("danger 5 if " + "1=1 and ".repeat(14) + "10=" + ten), "of(0,0,0)=5");
     }
 
     private static void lengths() {
@@ -235,6 +260,11 @@ public final class TextsTest extends Due {
         calls(x, "end(11)=11 law()=1");
         write(write(x, "dang"), "er 6");
         calls(x, "law()=2 force(2)=-1 of(0,0,0)=6");
+        promise(10, "TEXTS that could not be leave nothing behind for the next one");
+        for (int i = 0; i < 10; i++) {
+            calls(write(x, "danger 1" + "+1".repeat(49) + ";bars;x"), "law()=-6 fault()=112");
+        }
+        calls(write(x, "danger 3;will 1" + "+1".repeat(48)), "law()=3 force(3)=2 of(0,0,0)=3 will(0,1,0)=49 goes(0,1,0)=1");
     }
 
     private static void faults() {
@@ -382,7 +412,8 @@ public final class TextsTest extends Due {
         promise(14, "/ is cut towards 0");
         String[][] cases = {{"7", "2", "3"}, {"[0-7]", "2", "-3"}, {"7", "[0-2]", "-3"}, {"[0-7]", "[0-2]", "3"},
             {"1", "2", "0"}, {"[0-1]", "2", "0"}, {"1", "[0-2]", "0"}, {"6", "3", "2"}, {"[0-6]", "3", "-2"},
-            {"999", "1000", "0"}, {"[0-999]", "1000", "0"}, {"1000", "1000", "1"}, {"0", "[0-3]", "0"}};
+            {"7", "1", "7"}, {"7", "[0-1]", "-7"}, {"[0-7]", "[0-1]", "7"}, {"999", "1000", "0"},
+            {"[0-999]", "1000", "0"}, {"1000", "1000", "1"}, {"0", "[0-3]", "0"}};
         for (String[] one : cases) {
             int want = 50 + Integer.parseInt(one[2]);
             calls(under("danger 50+" + one[0] + "/" + one[1]), "of(0,0,0)=" + want);
@@ -415,14 +446,13 @@ public final class TextsTest extends Due {
             test("[0-" + left + "]<[0-1]", left > 1);
         }
         promise(14, "\"or\", \"and\", \"not\"");
-        String[] so = {"1=2", "1=1"};
         for (int bits = 0; bits < 8; bits++) {
             boolean a = (bits & 1) != 0;
             boolean b = (bits & 2) != 0;
             boolean c = (bits & 4) != 0;
-            String first = so[bits & 1];
-            String second = so[bits >> 1 & 1];
-            String third = so[bits >> 2];
+            String first = a ? "1<2" : "2<1";
+            String second = b ? "2>1" : "1>2";
+            String third = c ? "1=1" : "1=2";
             test(first + " or " + second + " and " + third, a || b && c);
             test(first + " and " + second + " or " + third, a && b || c);
             test(first + " or " + second + " or " + third, a || b || c);
@@ -435,33 +465,42 @@ public final class TextsTest extends Due {
         }
         promise(14, "(\"or\", \"and\" ask what stands behind only if it can still matter)");
         for (String broken : new String[] {"1/0=1", "1000*1000*1000+1>0", "(1/0=1 or 1=1)", "not 1/0=1"}) {
-            test("1=1 or " + broken, true);
-            test("1=1 or " + broken + " or " + broken, true);
-            test("1=1 or 1=1 and " + broken, true);
-            test("1=1 or " + broken + " and 1=1", true);
-            test("1=2 or 1=1 or " + broken, true);
-            test("not (1=2 and " + broken + ")", true);
-            test("1=2 and " + broken + " or 1=1", true);
-            test("1=2 and 1=1 and " + broken + " or 1=1", true);
-            test("1=2 or " + broken, false);
-            test("1=1 and " + broken, false);
-            test("not (1=1 and " + broken + ")", false);
-            test("1=2 and " + broken, false);
-            test(broken + " or 1=1", false);
-            test(broken + " and 1=2 or 1=1", false);
-            test("not (" + broken + " and 1=2)", false);
-            test("1=2 or " + broken + " or 1=1", false);
-            test("1=1 and " + broken + " or 1=1", false);
-            test("not " + broken, false);
-            test("(1=1 or " + broken + ") and 1=1", true);
-            test("(1=1 or " + broken + ") and " + broken, false);
+            stillMatters("1=1", "1=2", broken);
+            stillMatters("1<2", "2<2", broken);
+            stillMatters("2>1", "1>1", broken);
+            stillMatters("not 1=2", "not 1=1", broken);
+            stillMatters("(1=1)", "(2>3)", broken);
         }
+    }
+
+    private static void stillMatters(String so, String not, String broken) {
+        test(so + " or " + broken, true);
+        test(so + " or " + broken + " or " + broken, true);
+        test(so + " or " + so + " and " + broken, true);
+        test(so + " or " + broken + " and " + so, true);
+        test(not + " or " + so + " or " + broken, true);
+        test("not (" + not + " and " + broken + ")", true);
+        test(not + " and " + broken + " or " + so, true);
+        test(not + " and " + so + " and " + broken + " or " + so, true);
+        test("(" + so + " or " + broken + ") and " + so, true);
+        test(not + " or " + broken, false);
+        test(so + " and " + broken, false);
+        test("not (" + so + " and " + broken + ")", false);
+        test(not + " and " + broken, false);
+        test(broken + " or " + so, false);
+        test(broken + " and " + not + " or " + so, false);
+        test("not (" + broken + " and " + not + ")", false);
+        test(not + " or " + broken + " or " + so, false);
+        test(so + " and " + broken + " or " + so, false);
+        test("(" + so + " or " + broken + ") and " + broken, false);
+        test("not " + broken, false);
     }
 
     private static void told() {
         promise(14, "0 .. 99 (else the nearest), 1 without");
         String[][] cases = {{"0-1", "0"}, {"0", "0"}, {"1", "1"}, {"98", "98"}, {"99", "99"}, {"100", "99"},
-            {"1000*1000*1000", "99"}, {"0-1000*1000*1000", "0"}, {"0-99", "0"}};
+            {"1000*1000*1000", "99"}, {"1000*1000*1000-1", "99"}, {"1000*1000*1000-2", "99"}, {"0-1000*1000*1000", "0"},
+            {"1-1000*1000*1000", "0"}, {"0-99", "0"}};
         for (String[] one : cases) {
             calls(under("danger " + one[0]), "of(0,0,0)=" + one[1] + " of(8,59,0)=" + one[1] + " will(0,1,0)=1");
         }
@@ -474,6 +513,10 @@ public final class TextsTest extends Due {
         calls(under("danger 3;danger 4 if night>5;danger 6 if night>9"), "of(0,5,0)=3 of(0,6,0)=4 of(0,9,0)=4 of(0,10,0)=6");
         calls(under("danger 3;danger 4/night;danger 7 if 1/night=0"), "of(0,0,0)=3 of(0,1,0)=4 of(0,2,0)=7");
         calls(under("danger 3 if night=7;danger 9 if night=8"), "of(0,7,0)=3 of(0,8,0)=9 of(0,9,0)=1");
+        promise(14, "BROKEN is a CLAUSE alone, not those behind it");
+        calls(under("danger 1/0;danger 4"), "of(0,0,0)=4");
+        calls(under("bars if 1/0=1;danger 1/0 if 1/0=1;will 6;danger 4 if 1=1;bars if to=2"),
+            "of(0,0,0)=4 will(0,1,0)=6 goes(0,1,0)=1 goes(0,2,0)=0");
         promise(15, "0 .. 99, 1 without");
         for (String[] one : cases) {
             calls(under("will " + one[0]), "will(0,1,0)=" + one[1] + " will(8,7,58)=" + one[1] + " of(0,0,0)=1");

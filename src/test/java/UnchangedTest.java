@@ -361,6 +361,19 @@ public final class UnchangedTest extends Due {
         calls("terms(1,3) image(0) terms(1,4) image(1) terms(1,5) back(0)=0 count(14)=3 back(1)=0 count(14)=4 "
             + "back(0)=0 count(14)=3 terms(1,7) back(0)=0 count(14)=3 terms(0,2) back(0)=0 count(0)=9 back(1)=0 "
             + "count(14)=4");
+        promise(35, "its own LAWS, though their numbers are the same");
+        RedGlass x = calls("image(0)");
+        calls(write(x, "danger 8"), "law()=0 image(1) back(0) count(2)=0 force(0)=-2");
+        calls(write(x, "danger 9"), "law()=0 force(0)=-1 of(0,0,0)=9 image(0) back(1) count(13)=-1 force(0)=-1 of(0,0,0)=8");
+        calls(x, "back(0) of(0,0,0)=9 count(13)=0 back(1) of(0,0,0)=1 force(0)=-1 of(0,0,0)=8");
+        promise(35, "the whole of the NIGHTS: NIGHT 59");
+        x = calls(lastNight(), "trail(59)=1 image(0) unrow()=0 oar(0)=59 trail(59)=0 image(1) back(0) trail(59)=1 count(6)=1");
+        calls(x, "back(1) trail(59)=0 count(6)=0 terms(0,2) trail(59)=-1 back(0) trail(59)=1 trail(58)=0 unwarned()=60");
+        promise(34, "IMAGE k is kept: an IMAGE of nothing, of all that is full");
+        calls("image(0)=0 wed(0,0,0) report(0,0,0) storm(0,1) sea(0,1) oar(0) back(0)=0 count(1)=0 count(3)=0 count(4)=0 "
+            + "count(5)=0 search(0,0)=-1");
+        calls(calls(busy(), "image(0)=0 terms(0,9)"), "back(0)=0 count(2)=6 count(3)=4 count(4)=16 wed(0,0,0)=-5 "
+            + "report(0,0,0)=-5 jilt(3)=3 burn(15)=15");
         promise(34, "IMAGE k is kept");
         calls("terms(1,3) image(1)=0 terms(1,4) image(1)=0 terms(1,5) back(1)=0 count(14)=4 back(0)=-2");
     }
