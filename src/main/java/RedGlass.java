@@ -842,8 +842,10 @@ public final class RedGlass {
         }
 
         private void goTo(int token) {
-            at = Math.max(0, Math.min(token, MOST_BYTES));
-            sign = tokens[at] & SIGN_MASK;
+            if (token >= 0 && token <= MOST_BYTES) {
+                at = token;
+                sign = tokens[token] & SIGN_MASK;
+            }
         }
 
         /** Where in the code the word was put. */
